@@ -480,10 +480,13 @@ public final class GlassHill {
         Climb climb = climbs[0];
         climb.begin();
         for (int s = 0; s < n && s < MOST_STEPS; s++) {
-            if (climb.isWrong(steps[s])) {
+            if (steps[s] == RAIN) {
+                climb.polish();
+            } else if (climb.isUp(steps[s])) {
                 return s;
+            } else {
+                climb.attempt(steps[s]);
             }
-            climb.goOn(steps[s]);
         }
         return NONE;
     }
@@ -684,8 +687,8 @@ public final class GlassHill {
         final int[] nails = new int[MOST_RIDERS];
 
         int toll(int r, int p, int scratches) {
-            int asRider = Math.max(0, slick[p] - scratches - nails[r]);
-            return kind[r] == NIGHT ? Math.max(0, asRider - 1) : asRider;
+            int asRider = slick[p] - scratches - nails[r];
+            return Math.max(0, kind[r] == NIGHT ? asRider - 1 : asRider);
         }
 
         int marks(int r) {
@@ -741,11 +744,7 @@ public final class GlassHill {
             return (up >> r & 1) == 1;
         }
 
-        boolean isWrong(int step) {
-            return step != RAIN && isUp(step);
-        }
-
-        /** Lets a wrong step be of no matter, as odds() asks; days() looks at it ahead. */
+        /** Lets a try of one who is up be of no matter, as odds() asks. */
         void goOn(int step) {
             if (step == RAIN) {
                 polish();

@@ -701,12 +701,19 @@ public final class GlassHillAgainstModel {
             int paces = 2 + next(7);
             StringBuilder text = new StringBuilder("a").append(paces);
             int dear = 1 + next(10);
+            int dearness = 0;
             for (int p = 0; p < paces; p++) {
-                text.append(next(dear));
+                int slick = next(dear);
+                dearness += slick;
+                text.append(slick);
             }
+            // Most have a little too little speed: they are up by some tries, and not by others.
             for (int r = 1 + next(5); r > 0; r--) {
-                text.append(',').append("rnl".charAt(next(3))).append(next(8) == 0 ? next(10) : next(3))
-                        .append(next(10)).append(next(4) == 0 ? next(10) : next(3));
+                int nails = next(4) == 0 ? next(10) : next(2);
+                int speed = next(4) == 0 ? next(100)
+                        : Math.max(0, dearness - paces * nails - next(paces + 4) + 1);
+                text.append(',').append("rnl".charAt(next(3))).append(speed / 10)
+                        .append(speed % 10).append(nails);
             }
             int[] row = text.chars().toArray();
             if (next(5) == 0) {
@@ -738,7 +745,7 @@ public final class GlassHillAgainstModel {
             int i = next(2) == 0 ? 0 : near(cells + 1);
             int n = next(2) == 0 ? cells : near(Math.max(0, cells - Math.max(0, i)) + 1);
             String row = k + ", " + lane + ", " + i + ", " + n;
-            switch (next(32)) {
+            switch (next(34)) {
                 case 0 -> {
                     int what = near(2);
                     int want = !m.pace(p) ? -1 : !Model.in(what, 0, 1) ? -2
@@ -793,7 +800,7 @@ public final class GlassHillAgainstModel {
                     }
                 }
                 case 12 -> hold("sand(" + r + ")", x.sand(r), m.sand(r));
-                case 13 -> {
+                case 13, 31 -> {
                     int other = near(Math.max(1, m.riders.size()));
                     int turns = near(11);
                     hold("game(" + r + ", " + other + ", " + turns + ")", x.game(r, other, turns),

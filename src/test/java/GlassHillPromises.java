@@ -50,6 +50,7 @@ public final class GlassHillPromises {
         trace();
         fault();
         many();
+        mostOfAll();
         System.out.println(wrong == 0 ? "all promises are kept" : wrong + " answers are not as due");
         if (wrong != 0) {
             System.exit(1);
@@ -325,6 +326,7 @@ public final class GlassHillPromises {
         due("height 0 untried", days(x, 20, 1), -9);
         due("up", days(x, 0, 1, 0, RAIN, 2), 5);
         due("first up", days(x, 2, 1, RAIN, 2, 0), 2);
+        due("first up at once", days(x, 2, 2, 1), 0);
         due("height of one up", days(x, 22, 1, 2), 3);
         due("nothing scratched by one up", days(x, 10, 1, 2), 2);
         due("rain", days(x, 10, 1, RAIN), 1);
@@ -478,6 +480,18 @@ public final class GlassHillPromises {
         due("with a try alone", x.game(0, 1, 3), 0);
         x = built("a221,r020,r100");
         due("speed of another", x.game(0, 1, 4), 2);
+        // The lad is up by his third try, the other one never.
+        x = built("a262,l060,r000");
+        for (int n = 0; n <= 10; n++) {
+            due("lad first, " + n, x.game(0, 1, n), n >= 5 ? 1 : 0);
+            due("lad second, " + n, x.game(1, 0, n), n >= 6 ? 2 : 0);
+        }
+        days(x, 0, 0, 0);
+        x.scratch(0, 1);
+        due("by one scratch laid", x.game(0, 1, 2), 0);
+        due("by one scratch laid", x.game(0, 1, 3), 1);
+        x.scratch(0, 2);
+        due("by two scratches laid", x.game(0, 1, 1), 1);
         due("both are one", x.game(1, 1, 0), -2);
         due("n -1", x.game(0, 1, -1), -2);
         due("n 11", x.game(0, 1, 11), -2);
@@ -984,5 +998,31 @@ public final class GlassHillPromises {
         due("readings", x.many(2), 2);
         due("what -1", x.many(-1), -2);
         due("what 3", x.many(3), -2);
+    }
+
+    /** As many riders, paces, steps as there can be: what goes beyond a row is seen by its throw. */
+    private static void mostOfAll() {
+        promise = "the most of all";
+        GlassHill x = built("a811111111,r000,n001,l100,r090,l070");
+        due("fewest of the last", x.fewest(4, -1), 2);
+        due("its step 0", x.fewest(4, 0), 4);
+        due("sand of the last", x.sand(4), 1);
+        due("sand of the first", x.sand(0), 255);
+        due("worth of the last", x.worth(4), 100);
+        // All others are up, or come up nothing.
+        due("worth of the first", x.worth(0), 100);
+        due("game of the last", x.game(4, 0, 10), 1);
+        due("game of the last, second", x.game(0, 4, 10), 2);
+        int[] rains = new int[10];
+        java.util.Arrays.fill(rains, RAIN);
+        x.scratch(7, 9);
+        due("scratches of the last", days(x, 17, rains), 0);
+        int n = step(x, 4, 4, 4, 4, 4, 4, 4, 4, 4, 4);
+        due("odds of the last", x.odds(4, 1, INTS, 1, n, 0), 1);
+        due("height of the last", days(x, 24, 4), 8);
+        due("slicks of the last", x.slicks(7, 1, INTS, 1, 1), 1023);
+        due("kinds of the last", x.kinds(4, 1, INTS, 1, 1), 7);
+        due("takes of the last", x.takes(4, 7, 9), 0);
+        due("cheer of the last", x.cheer(4), 80);
     }
 }
