@@ -1470,6 +1470,14 @@ public final class GlassHillEdges {
         due("one who is up", x.fewest(1, -1), 1);
     }
 
+    @Says("All of them: he is UP, and stays there; nothing is SCRATCHED.")
+    private static void p10_none_by_tries_of_one_who_is_up() {
+        // 1 is up by his first try; would he slide by a second one, he would bring 0 up.
+        GlassHill x = built("a255,r090,r100");
+        due("of 0", x.fewest(0, -1), NONE);
+        due("of 1", x.fewest(1, -1), 1);
+    }
+
     @Says("(6 at most; all of them TRIES, of any RIDERS)")
     private static void p10_of_riders_that_there_are() {
         GlassHill x = built("a255,r050,l050,l050,l050,l050");
@@ -2319,6 +2327,23 @@ public final class GlassHillEdges {
         share(x, 0, 1, 1024, 1, 1, 1, 1, 1, 1, 1, 1, 1, 0);
         x.scratch(0, 2);
         share(x, 0, 11, 1024, 1, 1, 1, 1, 1, 1, 1, 1, 1, 0);
+    }
+
+    @Says("ODDS of a RIDER by DAYS of n STEPS (10 at most)")
+    private static void p20_no_step_behind_the_last_one() {
+        GlassHill x = built("a255,r100,r000");
+        share(x, 0, 1, 1, 1, 1, 0, 1, 0, 0, 0, 0, 0, 0);
+        share(x, 0, 0, 1, 1, 1);
+        share(x, 0, 0, 1, 1);
+        share(x, 0, 0, 1);
+        share(x, 0, 1, 1, 1, 1, 0);
+        x.speed(0, 9);
+        x.scratch(0, 1);
+        share(x, 0, 1, 8, 1, 1, 0);
+        share(x, 0, 0, 1, 1, 1);
+        share(x, 0, 0, 1, 1);
+        share(x, 0, 1, 2, 0);
+        share(x, 0, 0, 1);
     }
 
     @Says("OUTSIDE: lane, n (0 .. 10), which; else as days().")
